@@ -421,7 +421,9 @@ public final class PlanBranches {
         final int[] needs = new int[TASKS];
 
         Plan() {
-            Arrays.fill(crews, NONE);
+            for (int task = 0; task < TASKS; task++) {
+                crews[task] = NONE;
+            }
         }
 
         boolean has(int task) {
@@ -583,7 +585,9 @@ public final class PlanBranches {
         Branch(int number, Branch from) {
             this.number = number;
             this.from = from;
-            Arrays.fill(sides, NONE);
+            for (int task = 0; task < TASKS; task++) {
+                sides[task] = NONE;
+            }
         }
 
         void startFrom(Plan newBase) {
@@ -659,7 +663,9 @@ public final class PlanBranches {
 
         Crews() {
             for (int crew = 0; crew < CREWS; crew++) {
-                Arrays.fill(borrowers[crew], NONE);
+                for (int day = 0; day < DAYS; day++) {
+                    borrowers[crew][day] = NONE;
+                }
             }
         }
 

@@ -208,9 +208,9 @@ public final class BranchesTest {
         x.call(p -> p.setTask(1, 2, 5, NONE, 1));
         x.call(p -> p.setTask(0, 8, 5, 0, 0));
         x.call(p -> p.setTask(1, 8, 6, 0, 0));
-        x.call(p -> p.removeTask(1, 1));
-        x.call(p -> p.setTask(0, 1, 2, 1, 6));
         x.call(p -> p.setTask(0, 9, 5, 0, 0));
+        x.call(p -> p.removeTask(1, 1));
+        x.call(p -> p.setNeed(0, 1, 9, true));
         x.due("16 not there in one", p -> p.clashes(1), Check.bits(1, 2, 8));
         x.call(p -> p.resolve(1, 2, OWN));
         x.due("16 resolved or not", p -> p.clashes(1), Check.bits(1, 2, 8));
