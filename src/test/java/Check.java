@@ -6,8 +6,28 @@ final class Check {
 
     private static int asked = 0;
     private static int wrong = 0;
+    private static String sentence = "";
+    private static int askedBefore = 0;
 
     private Check() {
+    }
+
+    /** What is asked from here on is asked for this sentence of the document, under this heading of it. */
+    static void of(String heading, String quote) {
+        endSentence();
+        sentence = heading + ": " + quote + "\n    ";
+        askedBefore = asked;
+        if (Doc.isHere() && !Doc.says(heading, quote)) {
+            wrong++;
+            System.out.println(sentence + "does not stand in the document");
+        }
+    }
+
+    private static void endSentence() {
+        if (!sentence.isEmpty() && asked == askedBefore) {
+            wrong++;
+            System.out.println(sentence + "nothing is asked for it");
+        }
     }
 
     static void due(String what, long got, long want) {
@@ -22,7 +42,7 @@ final class Check {
         asked++;
         if (!got.equals(want)) {
             wrong++;
-            System.out.println(what + " answered " + got + ", due is " + want);
+            System.out.println(sentence + what + " answered " + got + ", due is " + want);
         }
     }
 
@@ -44,6 +64,7 @@ final class Check {
     }
 
     static void end() {
+        endSentence();
         System.out.println(asked + " answers asked for, " + wrong + " of them not as due");
         if (wrong != 0 || asked == 0) {
             System.exit(1);

@@ -47,7 +47,13 @@ final class Run {
         Check.due(what + " changes nothing, so that what follows", state(), before);
     }
 
-    private static String thrownBy(Call call, PlanBranches plans) {
+    /** The call is expected to throw; what it throws is looked at elsewhere. */
+    void callRefused(Call call) {
+        keep(fresh -> thrownBy(call, fresh));
+        thrownBy(call, plans);
+    }
+
+    static String thrownBy(Call call, PlanBranches plans) {
         try {
             call.on(plans);
         } catch (RuntimeException e) {
@@ -63,7 +69,17 @@ final class Run {
         }
     }
 
-    private PlanBranches again() {
+    /** Another run with the same calls so far. */
+    Run copy() {
+        Run other = new Run();
+        for (Call call : calls) {
+            other.call(call);
+        }
+        return other;
+    }
+
+    /** A fresh object on which the same calls are made. */
+    PlanBranches again() {
         PlanBranches fresh = new PlanBranches();
         for (Call call : calls) {
             call.on(fresh);
@@ -81,6 +97,7 @@ final class Run {
         for (int branch = 0; branch < branches; branch++) {
             addAnswers(all, questions(branch));
             addUndone(all, branch);
+            addBase(all, branch);
         }
         addAnswers(all, questionsOfCrews());
         return all.toString();
@@ -100,8 +117,10 @@ final class Run {
             asks.add(x -> x.firstDay(branch, task));
         }
         if (branch > 0) {
-            asks.add(x -> x.reason(branch, true));
-            asks.add(x -> x.reason(branch, false));
+            for (int merges : Check.numbers(0, 1)) {
+                asks.add(x -> x.reason(branch, merges == 1));
+                asks.add(x -> x.reasonTask(branch, merges == 1));
+            }
         }
         // What changes the object stands last, where no other question is answered otherwise for it.
         if (branch > 0) {
@@ -121,6 +140,9 @@ final class Run {
             }
         }
         asks.add(Run::loansWithOneMore);
+        for (int crew : Check.numbers(0, 4)) {
+            asks.add(x -> x.give(crew, 0));
+        }
         return asks;
     }
 
@@ -146,15 +168,48 @@ final class Run {
         all.append('\n');
     }
 
+    /** The plan behind each undoing that can be made, each on a fresh object; more than 30 would be wrong. */
     private void addUndone(StringBuilder all, int branch) {
+        for (int times = 1; times <= 32 && addUndone(all, branch, times); times++) {
+            all.append(' ');
+        }
+    }
+
+    private boolean addUndone(StringBuilder all, int branch, int times) {
         PlanBranches fresh = again();
         try {
-            while (true) {
-                all.append(fresh.undo(branch)).append('/');
-                all.append(fresh.tasks(branch)).append('/').append(fresh.cost(branch)).append(' ');
+            for (int time = 1; time < times; time++) {
+                fresh.undo(branch);
             }
+            all.append(fresh.undo(branch));
         } catch (IllegalStateException e) {
             all.append("no more\n");
+            return false;
         }
+        addPlan(all, fresh, branch);
+        return true;
+    }
+
+    private static void addPlan(StringBuilder all, PlanBranches plans, int branch) {
+        int tasks = plans.tasks(branch);
+        all.append('/').append(tasks).append('/').append(plans.cost(branch));
+        for (int task = 0; task < 16; task++) {
+            if ((tasks >> task & 1) != 0) {
+                all.append('/').append(plans.length(branch, task)).append(',').append(plans.crew(branch, task));
+                all.append(',').append(plans.needs(branch, task));
+            }
+        }
+    }
+
+    /** A base cannot be asked for; but where the own plan is made quite another, what clashes tells of it. */
+    private void addBase(StringBuilder all, int branch) {
+        PlanBranches fresh = again();
+        int tasks = fresh.tasks(branch);
+        for (int task = 0; task < 16; task++) {
+            if ((tasks >> task & 1) != 0) {
+                fresh.setTask(branch, task, fresh.length(branch, task) % 20 + 1, (fresh.crew(branch, task) + 2) % 6 - 1, 997);
+            }
+        }
+        all.append(fresh.clashes(branch)).append('\n');
     }
 }
