@@ -68,7 +68,7 @@ public final class PlanBranches {
         if (!of.plan.has(task)) {
             throw new IllegalStateException("the task is not there");
         }
-        if (of.plan.needers(task) != 0) {
+        if (of.plan.isNeeded(task)) {
             throw new IllegalStateException("another task needs it");
         }
         int was = of.plan.lengths[task];
@@ -484,14 +484,13 @@ public final class PlanBranches {
             return sum;
         }
 
-        int needers(int task) {
-            int found = 0;
+        boolean isNeeded(int task) {
             for (int other = 0; other < TASKS; other++) {
                 if (contains(needs[other], task)) {
-                    found |= 1 << other;
+                    return true;
                 }
             }
-            return found;
+            return false;
         }
 
         /** All that a task needs, over others or not. */

@@ -18,6 +18,7 @@ public final class BranchBoundsTest {
         stillUndone();
         nothingToBeUndone();
         sameTasks();
+        takenFromOnePlan();
         clashesIfNotThere();
         clashesIfRemoved();
         mixedParts();
@@ -126,6 +127,12 @@ public final class BranchBoundsTest {
         begun.fails("what is not brought up to date is no other base", Check.BAD_STATE, p -> p.update(1));
         begun.call(p -> p.setTask(1, 0, 5, NONE, 10));
         begun.due("the own one is as when it was begun", p -> p.clashes(1), 0);
+        Run undone = withTasks(1);
+        undone.call(p -> p.setTask(1, 0, 7, NONE, 10));
+        undone.call(p -> p.setTask(1, 0, 8, NONE, 10));
+        undone.call(p -> p.undo(1));
+        undone.due("undoing in the branch is no other base", p -> p.update(1), 0);
+        undone.due("undoing in the branch is no other base", p -> p.length(1, 0), 7);
 
         Run updated = withTasks(1);
         updated.call(p -> p.setTask(0, 0, 6, NONE, 10));
@@ -203,6 +210,16 @@ public final class BranchBoundsTest {
         merged.due("the grandchild merged", p -> p.merge(2), 3);
         undone(merged, 1, 0, 0);
 
+        Run sibling = changed();
+        sibling.call(p -> p.begin(0));
+        sibling.call(p -> p.setTask(3, 15, 1, NONE, 1));
+        sibling.call(p -> p.setTask(3, 14, 1, NONE, 1));
+        sibling.call(p -> p.update(1));
+        sibling.call(p -> p.merge(1));
+        sibling.call(p -> p.begin(1));
+        undone(sibling, 0, 0, 3);
+        sibling.due("not that of a sibling", p -> p.undo(3), 1);
+
         Run same = withTasks(1);
         same.call(p -> p.setTask(0, 0, 5, NONE, 10));
         same.call(p -> p.setTask(1, 0, 5, NONE, 10));
@@ -277,6 +294,49 @@ public final class BranchBoundsTest {
         x.due("the one that is left", p -> p.tasks(1), Check.bits(9));
     }
 
+    private static void takenFromOnePlan() {
+        Check.of("Terms", "If it is the same in the own plan and the base, it is taken from the other plan; otherwise, if it"
+                + " is the same in the other plan and the base, or in both plans, from the own one.");
+        for (int task : new int[] {0, 15}) {
+            for (int base : Check.numbers(0, 2)) {
+                for (int own : Check.numbers(0, 2)) {
+                    for (int other : Check.numbers(0, 2)) {
+                        if (own == base || other == base || own == other) {
+                            takenFromOnePlan(task, base, own, other);
+                        }
+                    }
+                }
+            }
+        }
+    }
+
+    /** In each plan the task is of so many days, and not there without a day. */
+    private static void takenFromOnePlan(int task, int base, int own, int other) {
+        Run x = new Run();
+        setOrRemove(x, 0, task, base);
+        x.call(p -> p.begin(0));
+        setOrRemove(x, 0, task, other);
+        setOrRemove(x, 1, task, own);
+        int got = own == base ? other : own;
+        String of = "task " + task + ", base " + base + ", own " + own + ", other " + other;
+        x.due(of, p -> p.clashes(1), 0);
+        Run y = x.copy();
+        y.due(of + " brought up to date", p -> p.update(1), got == own ? 0 : 1);
+        y.due(of + " brought up to date", p -> p.length(1, task), got);
+        y.due(of + " in the parent still", p -> p.length(0, task), other);
+        x.due(of + " merged", p -> p.merge(1), got == other ? 0 : 1);
+        x.due(of + " merged", p -> p.length(0, task), got);
+        x.due(of + " merged", p -> p.length(1, task), got);
+    }
+
+    private static void setOrRemove(Run x, int branch, int task, int length) {
+        if (length > 0) {
+            x.call(p -> p.setTask(branch, task, length, NONE, 1));
+        } else if ((x.again().tasks(branch) >> task & 1) != 0) {
+            x.call(p -> p.removeTask(branch, task));
+        }
+    }
+
     private static void clashesIfNotThere() {
         Check.of("Terms", "Otherwise, if it is not there in one of the three, it clashes.");
         // Of each task: its lengths in the base, in the parent and in the branch; 0 if it is not there.
@@ -342,11 +402,7 @@ public final class BranchBoundsTest {
 
     private static void setAll(Run x, int branch, int[][] lengths, int which) {
         for (int task : Check.numbers(0, 15)) {
-            if (lengths[task][which] > 0) {
-                x.call(p -> p.setTask(branch, task, lengths[task][which], NONE, 1));
-            } else if ((x.again().tasks(branch) >> task & 1) != 0) {
-                x.call(p -> p.removeTask(branch, task));
-            }
+            setOrRemove(x, branch, task, lengths[task][which]);
         }
     }
 
@@ -839,8 +895,8 @@ public final class BranchBoundsTest {
     }
 
     private static void resolve() {
-        Check.of("Promise 15", "Resolves a task for a branch, whether it clashes now or not;");
         Run x = withTasks(1);
+        Check.of("Promise 15", "Returns the side before; NONE if it was not resolved.");
         for (int task : Check.numbers(0, 15)) {
             x.due("not resolved", p -> p.resolve(1, task, NONE), NONE);
             x.due("before", p -> p.resolve(1, task, OWN), NONE);
@@ -849,6 +905,7 @@ public final class BranchBoundsTest {
             x.due("before", p -> p.resolve(1, task, PARENT), PARENT);
             x.due("before", p -> p.resolve(1, task, OWN), PARENT);
         }
+        Check.of("Promise 15", "Resolves a task for a branch, whether it clashes now or not;");
         x.call(p -> p.setTask(0, 0, 6, NONE, 10));
         x.call(p -> p.setTask(1, 0, 7, NONE, 10));
         x.due("clashes", p -> p.clashes(1), 1);

@@ -73,11 +73,20 @@ public final class DayBoundsTest {
             x.due("another crew", p -> p.holder(3, loan[0]), 0);
             x.fails("to a day ahead of the first", Check.BAD_ARGUMENT, p -> p.lend(4, 7, loan[0], loan[0] - 1));
         }
+        Check.of("Promise 22", "Lends a crew to a branch.");
         Run days = withBranches(2);
         days.call(p -> p.lend(0, 1, 13, 31));
         for (int day : Check.numbers(0, 399)) {
             days.due("day " + day, p -> p.holder(0, day), day >= 13 && day <= 31 ? 1 : 0);
         }
+        Check.of("Promise 23", "Returns the branch that holds a crew on a day.");
+        for (int crew : Check.numbers(1, 4)) {
+            days.due("another crew", p -> p.holder(crew, 13), 0);
+        }
+        days.fails("day 400", Check.BAD_ARGUMENT, p -> p.holder(0, 400));
+        days.fails("day -1", Check.BAD_ARGUMENT, p -> p.holder(0, -1));
+        days.fails("crew 5", Check.BAD_ARGUMENT, p -> p.holder(5, 0));
+        days.fails("crew -1", Check.BAD_ARGUMENT, p -> p.holder(NONE, 0));
     }
 
     private static void latestLoan() {
@@ -108,9 +117,16 @@ public final class DayBoundsTest {
     }
 
     private static void giveAnswers() {
-        Check.of("Promise 21", "Gives a crew to a branch; loans stay.");
         Run x = withBranches(8);
         x.call(p -> p.lend(0, 3, 10, 20));
+        Check.of("Promise 21", "Returns the branch to which it belonged.");
+        for (int crew : Check.numbers(1, 4)) {
+            x.due("at first", p -> p.give(crew, crew), 0);
+        }
+        for (int crew : Check.numbers(1, 4)) {
+            x.due("then", p -> p.give(crew, 0), crew);
+        }
+        Check.of("Promise 21", "Gives a crew to a branch; loans stay.");
         for (int branch : Check.numbers(1, 7)) {
             x.due("belonged to", p -> p.give(0, branch), branch - 1);
             x.due("lent still, first day", p -> p.holder(0, 10), 3);
@@ -199,6 +215,20 @@ public final class DayBoundsTest {
     }
 
     private static void heads() {
+        Check.of("Terms", "The head of a task is the greatest sum of lengths of a row of tasks, without it, of which the last"
+                + " one is needed by it, and each one behind the first one needs the one ahead of it;");
+        int[][] rows = {{0, 1, 2, 3, 4, 5, 6, 7, 8, 9, 10, 11, 12, 13, 14}, {14, 13, 12, 11, 10, 9, 8, 7, 6, 5, 4, 3, 2, 1, 0},
+            {7, 8, 6, 9, 5, 10, 4, 11, 3, 12, 2, 13, 1, 14, 0}};
+        for (int[] tasks : rows) {
+            Run row = row(tasks, 20);
+            row.call(p -> p.setTask(0, 15, 1, NONE, 0));
+            for (int at : Check.numbers(0, 14)) {
+                // The task 15 needs one of the row alone, so that its slack is the way less that one's head and both lengths.
+                row.call(p -> p.setNeed(0, 15, tasks[at], true));
+                row.due("behind task " + tasks[at], p -> p.slack(0, 15), at == 0 ? 0 : 300 - 20 * (15 - at) - 1);
+                row.call(p -> p.setNeed(0, 15, tasks[at], false));
+            }
+        }
         Check.of("Terms", "0 without needs.");
         Run x = new Run();
         x.call(p -> p.setTask(0, 3, 20, NONE, 0));
@@ -492,6 +522,20 @@ public final class DayBoundsTest {
         x.due("not behind its needs by that order", p -> p.lastDayByAll(0), 53);
         x.call(p -> p.setNeed(0, 2, 1, false));
         x.due("behind its need by that order", p -> p.lastDayByAll(0), 52);
+
+        // Only if the task 2 has the crew ahead of the task 1, of which both need the task 0, the task 4 begins early.
+        Run y = new Run();
+        y.call(p -> p.setTask(0, 0, 1, NONE, 0));
+        y.call(p -> p.setTask(0, 1, 3, 0, 0));
+        y.call(p -> p.setTask(0, 2, 3, 0, 0));
+        y.call(p -> p.setTask(0, 4, 20, NONE, 0));
+        y.call(p -> p.setNeed(0, 1, 0, true));
+        y.call(p -> p.setNeed(0, 2, 0, true));
+        y.call(p -> p.setNeed(0, 4, 2, true));
+        y.due("by the order 0, 2, 1, 4", p -> p.lastDayByAll(0), 23);
+        y.due("the same again", p -> p.lastDayByAll(0), 23);
+        y.call(p -> p.setNeed(0, 2, 1, true));
+        y.due("by the order 0, 1, 2, 4", p -> p.lastDayByAll(0), 26);
     }
 
     private static void lastDays() {

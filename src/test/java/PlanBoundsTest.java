@@ -16,6 +16,7 @@ public final class PlanBoundsTest {
         newObject();
         needsStay();
         setTaskIsAChange();
+        answersOfChanges();
         removeTask();
         setNeedIsAChange();
         undoAnswers();
@@ -108,6 +109,14 @@ public final class PlanBoundsTest {
     }
 
     private static void partsOfATask() {
+        Check.of("Terms", "In a plan each task is there or not.");
+        Run none = new Run();
+        for (int task : Check.numbers(0, 15)) {
+            none.due("not there", p -> p.tasks(0), 0);
+            none.call(p -> p.setTask(0, task, 1, NONE, 0));
+            none.due("there, alone", p -> p.tasks(0), 1 << task);
+            none.call(p -> p.removeTask(0, task));
+        }
         Check.of("Terms", "A task that is there has a length, 1 to 20 days, a crew or none, a cost for each day, 0 to 1000,"
                 + " and needs, which are other tasks that have to end ahead of its beginning.");
         Run x = new Run();
@@ -161,6 +170,22 @@ public final class PlanBoundsTest {
         x.due("the removal undone", p -> p.undo(0), 9);
         x.due("both undone", p -> p.undo(0), 8);
         x.fails("needed again", Check.BAD_STATE, p -> p.removeTask(0, 0));
+        neededByEach();
+    }
+
+    private static void neededByEach() {
+        Run x = new Run();
+        for (int task : Check.numbers(0, 15)) {
+            x.call(p -> p.setTask(0, task, 1, NONE, 0));
+        }
+        for (int task : Check.numbers(0, 15)) {
+            int other = 15 - task;
+            x.call(p -> p.setNeed(0, task, other, true));
+            x.fails("needed by task " + task, Check.BAD_STATE, p -> p.removeTask(0, other));
+            x.call(p -> p.setNeed(0, task, other, false));
+            x.due("needed by none", p -> p.removeTask(0, other), 1);
+            x.call(p -> p.undo(0));
+        }
     }
 
     private static void noTaskNeedsItself() {
@@ -332,6 +357,35 @@ public final class PlanBoundsTest {
         x.due("has no crew", p -> p.crew(0, 2), NONE);
     }
 
+    private static void answersOfChanges() {
+        Run x = new Run();
+        for (int task : new int[] {0, 15}) {
+            Check.of("Promise 2", "Returns whether it was there.");
+            x.due("not there", p -> p.setTask(0, task, 20, 0, 0), false);
+            x.due("there, the same", p -> p.setTask(0, task, 20, 0, 0), true);
+            x.due("there, another", p -> p.setTask(0, task, 1, 0, 0), true);
+            Check.of("Promise 3", "Returns its length.");
+            x.due("of a day", p -> p.removeTask(0, task), 1);
+            x.call(p -> p.undo(0));
+            x.call(p -> p.undo(0));
+            x.due("of twenty days", p -> p.removeTask(0, task), 20);
+            Check.of("Promise 2", "Returns whether it was there.");
+            x.due("removed", p -> p.setTask(0, task, 3, 0, 0), false);
+            x.call(p -> p.undo(0));
+            x.due("its setting undone", p -> p.setTask(0, task, 3, 0, 0), false);
+        }
+        Check.of("Promise 4", "Returns whether it did.");
+        x.due("did not", p -> p.setNeed(0, 15, 0, false), false);
+        x.due("did not", p -> p.setNeed(0, 15, 0, true), false);
+        x.due("did", p -> p.setNeed(0, 15, 0, true), true);
+        x.due("did", p -> p.setNeed(0, 15, 0, false), true);
+        x.due("did not any more", p -> p.setNeed(0, 15, 0, false), false);
+        x.call(p -> p.undo(0));
+        x.call(p -> p.undo(0));
+        x.due("did, for it is undone", p -> p.setNeed(0, 15, 0, false), true);
+        x.due("the other did not", p -> p.setNeed(0, 0, 15, false), false);
+    }
+
     private static void removeTask() {
         Check.of("Promise 3", "Removes a task from a plan. This is a change.");
         for (int task : new int[] {0, 15}) {
@@ -369,6 +423,19 @@ public final class PlanBoundsTest {
     }
 
     private static void undoAnswers() {
+        Check.of("Promise 5", "Undoes the latest change of a plan that can be undone.");
+        Run latest = new Run();
+        latest.call(p -> p.setTask(0, 0, 1, NONE, 0));
+        latest.call(p -> p.begin(0));
+        latest.call(p -> p.setTask(0, 0, 2, NONE, 0));
+        latest.call(p -> p.setTask(0, 15, 3, NONE, 0));
+        latest.call(p -> p.setTask(1, 15, 4, NONE, 0));
+        latest.call(p -> p.undo(0));
+        latest.due("the latest of this branch", p -> p.tasks(0), 1);
+        latest.due("not that of the other one", p -> p.length(1, 15), 4);
+        latest.call(p -> p.undo(0));
+        latest.due("the latest that is left", p -> p.length(0, 0), 1);
+        latest.fails("the first cannot be undone", Check.BAD_STATE, p -> p.undo(0));
         Check.of("Promise 5", "Returns how many can be undone then.");
         Run x = new Run();
         x.fails("none", Check.BAD_STATE, p -> p.undo(0));

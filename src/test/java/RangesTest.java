@@ -48,6 +48,7 @@ public final class RangesTest {
         joins();
         crews();
         daysByAll();
+        questionsChangeNothing();
         Check.of("Terms", "A call that throws changes nothing.");
         Check.due("calls that throw were held against it", refusals > 500, true);
         allIsQuoted();
@@ -179,6 +180,32 @@ public final class RangesTest {
         ofPlan(29, (p, a) -> p.leftOut(a[0]));
         ofPlan(30, (p, a) -> p.lastDay(a[0]));
     }
+
+    /** What is only asked for becomes no other by it, and can be undone, resolved and joined as before. */
+    private static void questionsChangeNothing() {
+        Check.of("Not promised", "Nothing is promised beyond the answers and state changes described above");
+        for (Run state : new Run[] {full(), empty(), clashing(), withTasks(6), lent(), chain()}) {
+            Run asked = state.copy();
+            for (int branch : Check.numbers(0, BRANCHES - 1)) {
+                for (Called question : questions) {
+                    for (int number : new int[] {0, 1, 3}) {
+                        asked.callRefused(p -> question.on(p, new int[] {branch, number, 200}));
+                    }
+                }
+            }
+            Check.due("behind all questions", asked.state(), state.state());
+        }
+    }
+
+    private static final Called[] questions = {
+        (p, a) -> p.tasks(a[0]), (p, a) -> p.length(a[0], a[1]), (p, a) -> p.crew(a[0], a[1]),
+        (p, a) -> p.needs(a[0], a[1]), (p, a) -> p.cost(a[0]), (p, a) -> p.branches(), (p, a) -> p.parent(a[0]),
+        (p, a) -> p.clashes(a[0]), (p, a) -> p.reason(a[0], a[1] == 0), (p, a) -> p.reasonTask(a[0], a[1] == 0),
+        (p, a) -> p.holder(a[1], a[2]), (p, a) -> p.tail(a[0], a[1]), (p, a) -> p.slack(a[0], a[1]),
+        (p, a) -> p.critical(a[0]), (p, a) -> p.way(a[0]), (p, a) -> p.firstDay(a[0], a[1]),
+        (p, a) -> p.leftOut(a[0]), (p, a) -> p.lastDay(a[0]), (p, a) -> p.lastDayByAll(a[0]),
+        (p, a) -> p.taskOn(a[0], a[1], a[2]),
+    };
 
     private static void ofPlan(int promise, Called called) {
         quote(promise, NO_BRANCH);

@@ -96,6 +96,7 @@ final class Run {
         int branches = again().branches();
         for (int branch = 0; branch < branches; branch++) {
             addAnswers(all, questions(branch));
+            addAnswers(all, changingQuestions(branch));
             addUndone(all, branch);
             addBase(all, branch);
         }
@@ -122,7 +123,12 @@ final class Run {
                 asks.add(x -> x.reasonTask(branch, merges == 1));
             }
         }
-        // What changes the object stands last, where no other question is answered otherwise for it.
+        return asks;
+    }
+
+    /** What is asked for by changing it; no other question is asked of that object. */
+    private static List<AskNumber> changingQuestions(int branch) {
+        List<AskNumber> asks = new ArrayList<>();
         if (branch > 0) {
             for (int task : Check.numbers(0, 15)) {
                 asks.add(x -> x.resolve(branch, task, PlanBranches.NONE));
