@@ -91,11 +91,20 @@ public final class FaceTest {
         return sorted(found);
     }
 
-    /** The classes inside are private and static, and none of their methods bears the name of a public one. */
+    /** LANGUAGE.md, rule 1: no class inside is public or protected, and no private method bears a public one's name. */
     private static void innerClasses(Class<?> face) {
+        privateMethods(face);
         for (Class<?> inner : face.getDeclaredClasses()) {
-            Check.due("modifiers of " + inner, Modifier.toString(inner.getModifiers()), "private static final");
-            for (Method method : inner.getDeclaredMethods()) {
+            int modifiers = inner.getModifiers();
+            Check.due("private or package-visible: " + inner,
+                    Modifier.isPublic(modifiers) || Modifier.isProtected(modifiers), false);
+            privateMethods(inner);
+        }
+    }
+
+    private static void privateMethods(Class<?> of) {
+        for (Method method : of.getDeclaredMethods()) {
+            if (!method.isSynthetic() && Modifier.isPrivate(method.getModifiers())) {
                 for (String name : METHODS) {
                     Check.due(method + " against " + name, name.contains(" " + method.getName() + "("), false);
                 }

@@ -1,62 +1,78 @@
 import com.sun.management.ThreadMXBean;
 import java.lang.management.ManagementFactory;
 
-/** All calls of a run live in one room: no call makes an object but the constructor and begin. */
+/**
+ * All calls of a run live in one room of some 7.3 million fields and elements: each kind of call,
+ * made as often as it can be on one object, takes less than that.
+ */
 public final class RoomTest {
-    private static final int STEPS = 40;
-    /** Below a single row of 16 numbers for each step, and above what the measuring itself makes. */
-    private static final int SMALL = 2000;
+    /** The calls that make the branches, tasks and loans, and these, are as many as are made on an object. */
+    private static final int CALLS = 512 - 6 - 7 - 40;
+    private static final long ROOM = 7300000L * Integer.BYTES;
 
     private static final ThreadMXBean BEAN = (ThreadMXBean) ManagementFactory.getThreadMXBean();
 
+    interface Kind {
+        void on(PlanBranches plans, int number);
+    }
+
     public static void main(String[] args) {
-        long start = 0;
-        PlanBranches x = null;
-        // The first round loads the classes, which takes room of its own.
-        for (int round = 0; round < 2; round++) {
-            start = bytes();
-            x = withAllBranches();
-        }
-        Check.due("an object with all its branches takes less than 40000 bytes", bytes() - start < 40000, true);
-        for (int round = 0; round < 2; round++) {
-            x = withAllBranches();
-            x.lend(0, 1, 200, 399);
-            for (int task = 0; task < 6; task++) {
-                x.setTask(0, task, 20, 0, 1);
+        fits("setTask", (x, number) -> x.setTask(1, number % 6, 20, number % 5, number));
+        fits("setNeed", (x, number) -> x.setNeed(0, 1, 0, number % 2 == 0));
+        fits("removeTask and undo", (x, number) -> {
+            if (number % 2 == 0) {
+                x.removeTask(1, 5);
+            } else {
+                x.undo(1);
             }
-            start = bytes();
-            calls(x);
-        }
-        Check.due("the calls take few bytes", bytes() - start < SMALL, true);
+        });
+        fits("cost", (x, number) -> x.cost(0));
+        fits("clashes", (x, number) -> x.clashes(1));
+        fits("reason", (x, number) -> x.reason(1, number % 2 == 0));
+        fits("reasonTask", (x, number) -> x.reasonTask(1, number % 2 == 0));
+        fits("merge", (x, number) -> x.merge(1));
+        fits("update", (x, number) -> x.update(1));
+        fits("resolve", (x, number) -> x.resolve(1, number % 16, number % 3 - 1));
+        fits("give", (x, number) -> x.give(number % 5, number % 8));
+        fits("holder", (x, number) -> x.holder(number % 5, number % 400));
+        fits("tail", (x, number) -> x.tail(0, number % 16));
+        fits("slack", (x, number) -> x.slack(0, number % 16));
+        fits("critical", (x, number) -> x.critical(0));
+        fits("way", (x, number) -> x.way(0));
+        fits("firstDay", (x, number) -> x.firstDay(1, 5));
+        fits("leftOut", (x, number) -> x.leftOut(1));
+        fits("lastDay", (x, number) -> x.lastDay(1));
+        fits("lastDayByAll", (x, number) -> x.lastDayByAll(0));
+        fits("taskOn", (x, number) -> x.taskOn(1, 0, number % 400));
         Check.end();
     }
 
-    private static PlanBranches withAllBranches() {
-        PlanBranches x = new PlanBranches();
-        for (int branch = 1; branch < 8; branch++) {
-            x.begin(0);
+    private static void fits(String what, Kind kind) {
+        long start = bytes();
+        PlanBranches x = withAllBranches();
+        for (int number = 0; number < CALLS; number++) {
+            kind.on(x, number);
         }
-        return x;
+        long taken = bytes() - start;
+        Check.due(what + " takes " + taken + " bytes; in the room", taken < ROOM, true);
     }
 
     private static long bytes() {
         return BEAN.getThreadAllocatedBytes(Thread.currentThread().getId());
     }
 
-    private static void calls(PlanBranches x) {
-        for (int call = 0; call < STEPS; call++) {
-            x.setTask(0, call % 6, 20, 0, call % 1000);
-            x.setNeed(0, 0, 5, call % 2 == 0);
-            x.lastDayByAll(0);
-            x.taskOn(0, 0, call % 400);
-            x.slack(0, 0);
-            x.give(1, call % 8);
-            x.holder(1, call % 400);
-            x.update(1);
-            x.reasonTask(1 + call % 7, true);
-            x.merge(1);
-            x.setTask(0, call % 6, 19, 0, call % 1000);
-            x.undo(0);
+    /** Six tasks of one crew, which the branch 1 holds late, and all branches and loans. */
+    private static PlanBranches withAllBranches() {
+        PlanBranches x = new PlanBranches();
+        for (int task = 0; task < 6; task++) {
+            x.setTask(0, task, 15 + task, 0, 1);
         }
+        for (int branch = 1; branch < 8; branch++) {
+            x.begin(0);
+        }
+        for (int loan = 1; loan <= 40; loan++) {
+            x.lend(0, 1, 200, 399);
+        }
+        return x;
     }
 }
